@@ -236,7 +236,10 @@ public final class GazetteHouse {
         if (by == null || i < 0 || i >= by.size) {
             return NONE;
         }
-        reckonSpans(it);
+        // A printed notice keeps the days that it was printed with, whatever becomes a feast later.
+        if (it.waits()) {
+            by.reckon(it.values, calendar);
+        }
         return it.values[i];
     }
 
@@ -503,22 +506,15 @@ public final class GazetteHouse {
         return number < 0 || number >= formCount ? null : forms[number];
     }
 
-    /** A printed notice keeps the days that it was printed with, whatever becomes a feast later. */
-    private void reckonSpans(Notice it) {
-        Form by = formAt(it.form);
-        if (by != null && it.waits()) {
-            by.reckon(it.values, calendar);
-        }
-    }
-
     /** What the paper has taken becomes the next issue; from here on nothing can refuse it. */
     private void print(int day) {
         Issue fresh = issues[issueCount];
         fresh.begin(day, paper.pagesNeeded());
         for (int i = 0; i < paper.size; i++) {
             Notice it = archive.at(paper.numbers[i]);
-            if (it != null) {
-                reckonSpans(it);
+            Form by = it == null ? null : formAt(it.form);
+            if (by != null) {
+                by.reckon(it.values, calendar);
                 it.print(issueCount, day);
             }
         }
@@ -564,7 +560,8 @@ public final class GazetteHouse {
         private int feastCount;
 
         boolean isFeast(int day) {
-            return isDay(day) && (feasts[day >> 6] >>> (day & 63) & 1L) != 0;
+            int cell = day >> 6;
+            return cell >= 0 && cell < feasts.length && (feasts[cell] >>> (day & 63) & 1L) != 0;
         }
 
         void setFeast(int day, boolean on) {
@@ -576,27 +573,23 @@ public final class GazetteHouse {
         }
 
         boolean isWorking(int day) {
-            return isDay(day) && day % 7 < 5 && !isFeast(day);
+            return day % 7 < 5 && !isFeast(day);
         }
 
         int behind(int day, int n, boolean work) {
-            return work ? workingDaysBehind(day, n) : daysBehind(day, n);
-        }
-
-        private int workingDaysBehind(int day, int n) {
+            if (!work) {
+                return workingFrom(Math.min(day + n, BEYOND));
+            }
             int at = day;
-            int left = n;
-            while (left > 0 && at < BEYOND) {
-                at++;
-                if (isWorking(at)) {
-                    left--;
-                }
+            for (int left = n; left > 0 && at < BEYOND; left--) {
+                at = workingFrom(at + 1);
             }
             return at;
         }
 
-        private int daysBehind(int day, int n) {
-            int at = Math.min(day + n, BEYOND);
+        /** The day itself if it is a working one, or the next that is; BEYOND without one. */
+        private int workingFrom(int day) {
+            int at = day;
             while (at < BEYOND && !isWorking(at)) {
                 at++;
             }
@@ -656,53 +649,43 @@ public final class GazetteHouse {
                 at++;
             }
             place = at;
+            word = readRun('a', 'z', 1 << LETTER_BITS, 'a' - 1);
+            if (at > place) {
+                kind = at - place <= LETTERS ? WORD : NO_TOKEN;
+                return;
+            }
+            number = (int) readRun('0', '9', 10, '0');
+            if (at > place) {
+                kind = at - place <= DIGITS ? NUMBER : NO_TOKEN;
+                return;
+            }
+            kind = readSign();
+        }
+
+        /** All letters or digits that stand together; too many of them make no token, not more. */
+        private long readRun(int least, int greatest, int base, int zero) {
+            long read = 0;
+            while (at < end && tape[at] >= least && tape[at] <= greatest) {
+                read = read * base + tape[at] - zero;
+                at++;
+            }
+            return read;
+        }
+
+        private int readSign() {
             if (at >= end) {
-                kind = END;
-            } else if (isLetter(tape[at])) {
-                readWord();
-            } else if (isDigit(tape[at])) {
-                readNumber();
-            } else {
-                readSign(tape[at]);
+                return END;
             }
-        }
-
-        private void readWord() {
-            word = 0;
-            while (at < end && isLetter(tape[at])) {
-                word = word << LETTER_BITS | tape[at] - 'a' + 1;
-                at++;
-            }
-            kind = at - place <= LETTERS ? WORD : NO_TOKEN;
-        }
-
-        private void readNumber() {
-            number = 0;
-            while (at < end && isDigit(tape[at])) {
-                number = number * 10 + tape[at] - '0';
-                at++;
-            }
-            kind = at - place <= DIGITS ? NUMBER : NO_TOKEN;
-        }
-
-        private void readSign(int sign) {
+            int sign = tape[at];
             at++;
             if (sign == ':' || sign == ';' || sign == '?' || sign == '/' || sign == '=') {
-                kind = sign;
-            } else if (sign == '.' && at < end && tape[at] == '.') {
-                at++;
-                kind = DOTS;
-            } else {
-                kind = NO_TOKEN;
+                return sign;
             }
-        }
-
-        private static boolean isLetter(int sign) {
-            return sign >= 'a' && sign <= 'z';
-        }
-
-        private static boolean isDigit(int sign) {
-            return sign >= '0' && sign <= '9';
+            if (sign == '.' && at < end && tape[at] == '.') {
+                at++;
+                return DOTS;
+            }
+            return NO_TOKEN;
         }
     }
 
@@ -743,7 +726,6 @@ public final class GazetteHouse {
         }
 
         boolean readLimits(Text t) {
-            kind = NUM;
             first = t.number;
             if (!t.take(NUMBER) || !t.take(DOTS)) {
                 return false;
@@ -756,7 +738,6 @@ public final class GazetteHouse {
         }
 
         boolean readWords(Text t) {
-            kind = ONE;
             for (int i = 0; i <= MOST_WORDS; i++) {
                 if (!readOneWord(t)) {
                     return false;
@@ -826,9 +807,10 @@ public final class GazetteHouse {
         boolean readAll(Text t) {
             size = 0;
             for (int i = 0; i <= MOST_FIELDS; i++) {
-                if (!readField(t)) {
+                if (!readName(t) || !readKind(t, parts[size])) {
                     return false;
                 }
+                size++;
                 if (t.kind == END) {
                     return true;
                 }
@@ -839,7 +821,8 @@ public final class GazetteHouse {
             return false;
         }
 
-        private boolean readField(Text t) {
+        /** Refuses the ninth, so that behind it there is a field at the size that was reached. */
+        private boolean readName(Text t) {
             if (t.kind != WORD) {
                 return t.fail(SHAPE);
             }
@@ -849,18 +832,9 @@ public final class GazetteHouse {
             if (size >= MOST_FIELDS) {
                 return t.fail(MANY);
             }
-            Field fresh = parts[size];
-            fresh.begin(t.word);
+            parts[size].begin(t.word);
             t.step();
-            if (!t.take(':') || !readKind(t, fresh)) {
-                return false;
-            }
-            if (t.kind == '?' && !fresh.isSpan()) {
-                fresh.mayLack = true;
-                t.step();
-            }
-            size++;
-            return true;
+            return t.take(':');
         }
 
         private boolean readKind(Text t, Field fresh) {
@@ -869,16 +843,17 @@ public final class GazetteHouse {
                 return t.fail(SHAPE);
             }
             t.step();
-            if (word == W_NUM) {
-                return fresh.readLimits(t);
-            }
-            if (word == W_ONE) {
-                return fresh.readWords(t);
-            }
             if (word == W_SPAN) {
                 return readSpan(t, fresh);
             }
-            fresh.kind = word == W_DAY ? DAY : NAME;
+            fresh.kind = word == W_NUM ? NUM : word == W_DAY ? DAY : word == W_WORD ? NAME : ONE;
+            if (fresh.kind == NUM && !fresh.readLimits(t) || fresh.kind == ONE && !fresh.readWords(t)) {
+                return false;
+            }
+            if (t.kind == '?') {
+                fresh.mayLack = true;
+                t.step();
+            }
             return true;
         }
 

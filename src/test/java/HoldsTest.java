@@ -119,7 +119,10 @@ public final class HoldsTest {
                 due.is("isVoid(" + i + ", " + known + ")", x.isVoid(i, known), want[known][i]);
             }
         }
-        due.is("law(1, 0, 3): 1 and 3 hold", x.source(1, 0, 3), 3);
+        due.is("source(1, 0, 3): 1 and 3 hold", x.source(1, 0, 3), 3);
+        due.is("source(1, 0, 2): 0 and 2 hold", x.source(1, 0, 2), 2);
+        due.is("law(1, 0, 1): 1 holds", x.law(1, 0, 1), 11);
+        due.is("law(1, 0, 0): 0 holds", x.law(1, 0, 0), 10);
         add(x, "a=x");
         x.corrects(4, 3);
         due.is("isVoid(4, 9999) while it waits", x.isVoid(4, 9999), -1);
@@ -222,7 +225,7 @@ public final class HoldsTest {
         due.is("find(x, 1)", x.find(Due.word("x"), 1), 2);
         due.is("find(y, 1)", x.find(Due.word("y"), 1), 2);
         x = longLine();
-        due.is("find, 58 steps back", x.find(step(58), 9999), 1);
+        due.is("find, 60 steps back", x.find(step(60), 9999), 1);
         due.is("found(0)", x.found(0), 0);
     }
 
@@ -234,9 +237,8 @@ public final class HoldsTest {
     /** The earlier step is renamed by the lesser notice, so that each look over them adds one alone. */
     private static GazetteHouse longLine() {
         GazetteHouse x = house();
-        add(x, "a=aa");
-        for (int i = 1; i <= 58; i++) {
-            int number = add(x, "a=a");
+        for (int i = 1; i <= 60; i++) {
+            int number = add(x, i == 1 ? "a=aa" : "a=a");
             x.renames(number, step(i - 1), step(i));
         }
         for (int day = 0; day < 20; day++) {

@@ -75,6 +75,8 @@ public final class IssuesTest {
         due.refused(x, "issue, the 41st with a bad number", x.issue(39, 9999, 1, 10), 2);
         due.is("count(3)", x.count(3), 40);
         due.is("issued(39, 0)", x.issued(39, 0), 39);
+        due.is("issued(40, 0)", x.issued(40, 0), -1);
+        due.is("printed(40, 0)", x.printed(40, 0), -1);
     }
 
     private static void mustAndOthers() {
@@ -91,6 +93,9 @@ public final class IssuesTest {
         listed(x, 1, 2);
         due.is("issue", x.issue(12, 51, 1, 30), 2);
         listed(x, 2, 0);
+        add(x, 10, 14);
+        due.is("issue: what is due on the next day is taken if it fits", x.issue(13, 14, 1, 10), 3);
+        listed(x, 3, 4);
     }
 
     private static void othersByDue() {

@@ -335,6 +335,10 @@ public final class TextsTest {
         Due.notice(x, 0, "d=ann;e=r", 1, 0);
         due.is("value(2, 3)", x.value(2, 3), 1 << 10 | 14 << 5 | 14);
         due.is("value(2, 4)", x.value(2, 4), 0);
+        Due.form(x, "a:day;b:day?;c:day?;d:day?;e:day?;f:day?;g:day?;h:day?");
+        Due.notice(x, 1, "a=1;h=8", 1, 0);
+        due.is("value(3, 7)", x.value(3, 7), 8);
+        due.is("value(3, 8)", x.value(3, 8), -1);
     }
 
     private static void spans() {
