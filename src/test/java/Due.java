@@ -1,11 +1,47 @@
+import java.util.ArrayList;
+import java.util.List;
+
 /** What the tests share: they tell the answers that are not due, and end with 1 if there was one. */
 final class Due {
+    /** A sentence of the document that a test stands for, and how many answers had been asked ahead of it. */
+    record Sentence(String section, String words, int askedAhead) { }
+
     private int wrong;
     private int asked;
     private String part = "";
+    private final List<Sentence> sentences = new ArrayList<>();
 
     void part(String name) {
         part = name;
+    }
+
+    /** What follows stands for these words of a promise. */
+    void promise(int number, String words) {
+        begin("Promise " + number, "promise " + number, words);
+    }
+
+    /** What follows stands for these words of the Terms, which the promises named rest on. */
+    void term(String promises, String words) {
+        begin("Terms", promises + " by the Terms", words);
+    }
+
+    private void begin(String section, String who, String words) {
+        endSentence();
+        sentences.add(new Sentence(section, words, asked));
+        part(who + ", \"" + words + "\"");
+    }
+
+    private void endSentence() {
+        boolean idle = !sentences.isEmpty() && sentences.get(sentences.size() - 1).askedAhead == asked;
+        if (idle) {
+            is("no answer is asked for this sentence", 1, 0);
+        }
+    }
+
+    /** The sentences that the tests said they stand for. */
+    List<Sentence> sentences() {
+        endSentence();
+        return sentences;
     }
 
     void is(String call, long got, long want) {
@@ -20,6 +56,16 @@ final class Due {
         is(call, got ? 1 : 0, want ? 1 : 0);
     }
 
+    /** A call that was accepted, with its answer and its trouble. */
+    void taken(GazetteHouse x, String call, int got, int want) {
+        is(call, got, want);
+        is("trouble() behind " + call, x.trouble(), 0);
+    }
+
+    void taken(GazetteHouse x, String call, boolean got) {
+        taken(x, call, got ? 1 : 0, 1);
+    }
+
     /** A call that was refused, with its answer and its trouble. */
     void refused(GazetteHouse x, String call, int got, int trouble) {
         is(call, got, GazetteHouse.NONE);
@@ -31,11 +77,67 @@ final class Due {
         is("trouble() behind " + call, x.trouble(), trouble);
     }
 
+    /** A form's text that a new house takes. */
+    GazetteHouse goodForm(String text) {
+        GazetteHouse x = new GazetteHouse();
+        taken(x, "form '" + text + "'", form(x, text), 0);
+        is("fault() of '" + text + "'", x.fault(), 0);
+        is("where() of '" + text + "'", x.where(), -1);
+        return x;
+    }
+
+    /** A form's text with a fault at the ^, which is no part of it. */
+    void badForm(int fault, String marked) {
+        badForm(fault, marked.indexOf('^'), marked.replace("^", ""));
+    }
+
+    void badForm(int fault, int place, String text) {
+        GazetteHouse x = new GazetteHouse();
+        refused(x, "form '" + text + "'", form(x, text), 4);
+        faultIs(x, text, fault, place);
+        is("count(1) behind '" + text + "'", x.count(1), 0);
+    }
+
+    /** A notice's text that a new house takes, by a form. */
+    GazetteHouse goodNotice(String form, String text) {
+        GazetteHouse x = goodForm(form);
+        taken(x, "notice '" + text + "'", notice(x, 0, text, 1, 0), 0);
+        is("fault() of '" + text + "'", x.fault(), 0);
+        is("where() of '" + text + "'", x.where(), -1);
+        return x;
+    }
+
+    /** A notice's text, by a form, with a fault at the ^, which is no part of it. */
+    GazetteHouse badNotice(String form, int fault, String marked) {
+        GazetteHouse x = goodForm(form);
+        String text = marked.replace("^", "");
+        refused(x, "notice '" + text + "' by '" + form + "'", notice(x, 0, text, 1, 0), 4);
+        faultIs(x, text, fault, marked.indexOf('^'));
+        is("count(2) behind '" + text + "'", x.count(2), 0);
+        return x;
+    }
+
+    private void faultIs(GazetteHouse x, String text, int fault, int place) {
+        is("fault() of '" + text + "'", x.fault(), fault);
+        is("where() of '" + text + "'", x.where(), place);
+        is("lacks() of '" + text + "' tells a field", x.lacks() != GazetteHouse.NONE, fault == 6);
+        is("count(6) behind '" + text + "'", x.count(6), 0);
+    }
+
     void end() {
         System.out.println(asked + " answers, " + wrong + " not as due");
         if (wrong != 0) {
             System.exit(1);
         }
+    }
+
+    /** A new house with these forms. */
+    static GazetteHouse house(String... forms) {
+        GazetteHouse x = new GazetteHouse();
+        for (String form : forms) {
+            form(x, form);
+        }
+        return x;
     }
 
     /** Feeds a text, with blanks behind it up to the next twenty; answers how long it is. */
