@@ -372,6 +372,7 @@ final class ActsSentences {
         due.is("struck(x, 0)", x.struck(X, 0), 1);
         due.is("struck(y, 0)", x.struck(Y, 0), 0);
         due.is("find(p, 0)", x.find(Due.word("p"), 0), 1);
+        due.is("found(0): p had been x, not y", x.found(0), 0);
         due.is("find(q, 0)", x.find(Due.word("q"), 0), 0);
         due.is("law(0, 0, 0)", x.law(0, 0, 0), 7);
     }
@@ -395,6 +396,24 @@ final class ActsSentences {
         }
         due.is("value(1, 0)", x.value(1, 0), 2);
         due.is("value(1, 1)", x.value(1, 1), -1);
+        nothingIsLeftOfAForm("a:num 3..9?;b:one p/q?;c:day?;d:span 5 work c");
+        nothingIsLeftOfAForm("a:num 3..9?;b:one p/q?;c:day?;d:span 5 work c;e:dax");
+    }
+
+    /** A form that is taken back, or has a fault, tells nothing of the next one of its number. */
+    private void nothingIsLeftOfAForm(String text) {
+        GazetteHouse x = new GazetteHouse();
+        Due.form(x, text);
+        x.undo();
+        due.is("form behind '" + text + "'", Due.form(x, "a:day;b:one r;c:word;d:day"), 0);
+        int[][] want = {{1, 0, 0, 0}, {3, 0, 1, 0}, {2, 0, 0, 0}, {1, 0, 0, 0}};
+        for (int i = 0; i < want.length; i++) {
+            for (int what = 0; what < 4; what++) {
+                due.is("field(0, " + i + ", " + what + ")", x.field(0, i, what), want[i][what]);
+            }
+        }
+        due.is("notice of a word that is no more", Due.notice(x, 0, "a=1;b=p;c=x;d=1", 1, 0), -1);
+        due.is("notice", Due.notice(x, 0, "a=1;b=r;c=x;d=1", 1, 0), 0);
     }
 
     // ---- promises 30 and 31

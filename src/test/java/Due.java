@@ -109,10 +109,13 @@ final class Due {
 
     /** A notice's text, by a form, with a fault at the ^, which is no part of it. */
     GazetteHouse badNotice(String form, int fault, String marked) {
+        return badNotice(form, fault, marked.indexOf('^'), marked.replace("^", ""));
+    }
+
+    GazetteHouse badNotice(String form, int fault, int place, String text) {
         GazetteHouse x = goodForm(form);
-        String text = marked.replace("^", "");
         refused(x, "notice '" + text + "' by '" + form + "'", notice(x, 0, text, 1, 0), 4);
-        faultIs(x, text, fault, marked.indexOf('^'));
+        faultIs(x, text, fault, place);
         is("count(2) behind '" + text + "'", x.count(2), 0);
         return x;
     }

@@ -234,6 +234,18 @@ final class HoldsSentences {
         due.is("find(z, 0)", x.find(Z, 0), 1);
         due.is("find(y, 0)", x.find(Y, 0), 0);
         due.is("find(x, 0): the older one has not been the newer", x.find(X, 0), 1);
+        edgeWords("a", "zzzzzzzz");
+        edgeWords("zzzzzzzz", "a");
+    }
+
+    private void edgeWords(String from, String to) {
+        GazetteHouse x = house();
+        add(x, "a=" + from);
+        add(x, "a=x");
+        x.renames(1, Due.word(from), Due.word(to));
+        print(x, 0);
+        due.is("find(" + to + ", 0), which had been " + from, x.find(Due.word(to), 0), 1);
+        due.is("find(" + from + ", 0)", x.find(Due.word(from), 0), 1);
     }
 
     private void hasName() {
@@ -431,10 +443,15 @@ final class HoldsSentences {
         GazetteHouse x = house();
         add(x, "a=x");
         x.says(0, 1, 10, 0);
+        x.says(0, 3, 10, 60);
+        x.says(0, 3, 11, 40);
+        x.says(0, 3, 12, 20);
         due.is("changes(1, 9999) while it waits", x.changes(1, 9_999), 0);
         print(x, 0);
         due.is("changes(1, 0): on day 0", x.changes(1, 0), 1);
         due.is("changes(2, 0): there is none", x.changes(2, 0), 0);
+        due.is("changes(3, 0): on day 20, 40 and 60, told the other way round", x.changes(3, 0), 3);
+        latestDayFirst();
         add(x, "a=x");
         x.says(1, 1, 10, 50);
         x.says(1, 1, 20, 100);
@@ -460,7 +477,25 @@ final class HoldsSentences {
         x.corrects(4, 1);
         print(x, 4);
         due.is("changes(1, 4): on day 100", x.changes(1, 4), 1);
+        add(x, "a=x");
+        x.says(5, 1, 7, 98);
+        x.says(5, 1, 8, 99);
+        x.says(5, 1, 9, 9_998);
+        x.says(5, 1, 30, 9_999);
+        print(x, 5);
+        due.is("changes(1, 5): on day 98, 99, 100, 9998 and 9999", x.changes(1, 5), 5);
         manyChanges();
+    }
+
+    /** The very first law of the house is that of the latest day. */
+    private void latestDayFirst() {
+        GazetteHouse x = house();
+        add(x, "a=x");
+        x.says(0, 1, 10, 60);
+        add(x, "a=x");
+        x.says(1, 1, 11, 40);
+        print(x, 0);
+        due.is("changes(1, 0): on day 40 and 60", x.changes(1, 0), 2);
     }
 
     /** Sixty notices of four laws each: a change on each of 240 days. */

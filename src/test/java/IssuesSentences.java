@@ -386,6 +386,11 @@ final class IssuesSentences {
         }
         x.issue(0, 1, 1, 10);
         due.is("issued(1, 0) of one that was refused", x.issued(1, 0), -1);
+        for (int day = 1; day < 40; day++) {
+            x.issue(day, day + 1, 1, 10);
+        }
+        due.is("issued(39, 0) of the last of forty", x.issued(39, 0), 39);
+        due.is("issued(40, 0) of the 41st", x.issued(40, 0), -1);
     }
 
     private void printed() {
@@ -410,5 +415,10 @@ final class IssuesSentences {
             due.is("printed(" + number + ", 0)", x.printed(number, 0), -1);
         }
         due.is("printed(3, 0)", x.printed(3, 0), -1);
+        for (int day = 3; day < 40; day++) {
+            x.issue(day, day + 1, 1, 10);
+        }
+        due.is("printed(39, 0) of the last of forty", x.printed(39, 0), -1);
+        due.is("printed(40, 0) of the 41st", x.printed(40, 0), -1);
     }
 }

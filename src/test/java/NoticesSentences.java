@@ -6,6 +6,7 @@ final class NoticesSentences {
     private static final long Y = Due.word("y");
     private static final long Z = Due.word("z");
     private static final long EIGHT = Due.word("zzzzzzzz");
+    private static final String EIGHT_DAYS = "a:day;b:day;c:day;d:day;e:day;f:day;g:day;h:day";
     /** No words: a sign of 0 or of 27 to 31 in any place, none at all, more than eight, less than none. */
     private static final long[] NO_WORDS = {0, 27, 31, 32, 27 << 5 | 1, 31 << 10 | 1 << 5 | 1, 1 << 10 | 1, 1 << 10 | 1 << 5,
         EIGHT + 1, EIGHT - 26, EIGHT | 31L << 35, EIGHT & ~(31L << 20), EIGHT * 32 + 1, 1L << 40 | Due.word("aaaaaaaa"),
@@ -75,6 +76,8 @@ final class NoticesSentences {
             due.is("field(0, 0, " + what + ")", x.field(0, 0, what), -1);
         }
         due.is("field(0, 1, 3)", x.field(0, 1, 3), 0);
+        due.is("field(0, 7, 0), the last of eight", due.goodForm(EIGHT_DAYS).field(0, 7, 0), 1);
+        due.is("field(0, 8, 0), the ninth", due.goodForm(EIGHT_DAYS).field(0, 8, 0), -1);
         Due.form(x, "a:day;b:day;c:dax");
         due.is("field(1, 0, 0) of a form with a fault", x.field(1, 0, 0), -1);
         x.undo();
@@ -83,7 +86,7 @@ final class NoticesSentences {
 
     private void fields() {
         due.promise(12, "How many FIELDS a FORM has; NONE.");
-        GazetteHouse x = Due.house("a:day", "a:day;b:day;c:day;d:day;e:day;f:day;g:day;h:day", "a:day;b:span 1 days a");
+        GazetteHouse x = Due.house("a:day", EIGHT_DAYS, "a:day;b:span 1 days a");
         due.is("fields(0)", x.fields(0), 1);
         due.is("fields(1)", x.fields(1), 8);
         due.is("fields(2)", x.fields(2), 2);
@@ -168,6 +171,12 @@ final class NoticesSentences {
         }
         Due.notice(x, 0, "a=1;g=1", 1, 0);
         due.is("value(2, 0) of one with a fault", x.value(2, 0), -1);
+        Due.form(x, EIGHT_DAYS);
+        Due.notice(x, 1, "a=1;b=2;c=3;d=4;e=5;f=6;g=7;h=8", 1, 0);
+        due.is("value(2, 7), the last of eight", x.value(2, 7), 8);
+        due.is("value(2, 8), the ninth", x.value(2, 8), -1);
+        x.undo();
+        x.undo();
         x.undo();
         due.is("value(1, 0) of one taken back", x.value(1, 0), -1);
         Due.notice(x, 0, "g=y", 1, 0);

@@ -67,68 +67,59 @@ public final class TextsTest {
         due.is("count(1)", x.count(1), 7);
     }
 
-    private static void formFault(String text, int fault, int place) {
-        GazetteHouse x = new GazetteHouse();
-        due.part("form '" + text + "'");
-        due.refused(x, "form", Due.form(x, text), 4);
-        due.is("fault()", x.fault(), fault);
-        due.is("where()", x.where(), place);
-        due.is("lacks()", x.lacks(), -1);
-        due.is("count(6)", x.count(6), 0);
-        due.is("count(1)", x.count(1), 0);
-    }
-
     private static void formFaults() {
-        formFault("", 1, 0);
-        formFault("   ", 1, 3);
-        formFault("a", 1, 1);
-        formFault("a:  ", 1, 4);
-        formFault("A: day", 1, 0);
-        formFault("a: day\t", 1, 6);
-        formFault("a: day" + (char) 0, 1, 6);
-        formFault("a: day" + (char) 225, 1, 6);
-        formFault("a: day;", 1, 7);
-        formFault("a: day; ;", 1, 8);
-        formFault("abcdefghi: day", 1, 0);
-        formFault("a: days", 1, 3);
-        formFault("a: num 3.9", 1, 8);
-        formFault("a: num 3. .9", 1, 8);
-        formFault("a: num 3...9", 1, 10);
-        formFault("a: num 3..", 1, 10);
-        formFault("a: num x..9", 1, 7);
-        formFault("a: num 3..00004", 1, 10);
-        formFault("a: one", 1, 6);
-        formFault("a: one 3", 1, 7);
-        formFault("a: one x/", 1, 9);
-        formFault("a: one x y", 1, 9);
-        formFault("a: day??", 1, 7);
-        formFault("a: day?b", 1, 7);
-        formFault("a= day", 1, 1);
-        formFault("3: day", 1, 0);
-        formFault("a: day;b: span x days a", 1, 15);
-        formFault("a: day;b: span 3 day a", 1, 17);
-        formFault("a: day;b: span 3 days 4", 1, 22);
-        formFault("a: day;b: span 3 days a?", 1, 23);
-        formFault("a: span 3 days a", 2, 15);
-        formFault("a: word;b: span 3 work a", 2, 23);
-        formFault("a: num 1..2;b: span 3 work a", 2, 27);
-        formFault("b: span 3 work a;a: day", 2, 15);
-        formFault("a: day;b: word;a: day", 3, 15);
-        formFault("a: one x/y/x", 3, 11);
-        formFault("a: num 9..8", 4, 10);
-        formFault("a: num 10..009 @", 4, 11);
-        formFault("a: one x/y/z/w/v", 5, 15);
-        formFault("a:day;b:day;c:day;d:day;e:day;f:day;g:day;h:day;i:day", 5, 48);
+        due.part("promises 6, 8, 9");
+        due.badForm(1, 0, "");
+        due.badForm(1, 3, "   ");
+        due.badForm(1, 1, "a");
+        due.badForm(1, 4, "a:  ");
+        due.badForm(1, 0, "A: day");
+        due.badForm(1, 6, "a: day\t");
+        due.badForm(1, 6, "a: day" + (char) 0);
+        due.badForm(1, 6, "a: day" + (char) 225);
+        due.badForm(1, 7, "a: day;");
+        due.badForm(1, 8, "a: day; ;");
+        due.badForm(1, 0, "abcdefghi: day");
+        due.badForm(1, 3, "a: days");
+        due.badForm(1, 8, "a: num 3.9");
+        due.badForm(1, 8, "a: num 3. .9");
+        due.badForm(1, 10, "a: num 3...9");
+        due.badForm(1, 10, "a: num 3..");
+        due.badForm(1, 7, "a: num x..9");
+        due.badForm(1, 10, "a: num 3..00004");
+        due.badForm(1, 6, "a: one");
+        due.badForm(1, 7, "a: one 3");
+        due.badForm(1, 9, "a: one x/");
+        due.badForm(1, 9, "a: one x y");
+        due.badForm(1, 7, "a: day??");
+        due.badForm(1, 7, "a: day?b");
+        due.badForm(1, 1, "a= day");
+        due.badForm(1, 0, "3: day");
+        due.badForm(1, 15, "a: day;b: span x days a");
+        due.badForm(1, 17, "a: day;b: span 3 day a");
+        due.badForm(1, 22, "a: day;b: span 3 days 4");
+        due.badForm(1, 23, "a: day;b: span 3 days a?");
+        due.badForm(2, 15, "a: span 3 days a");
+        due.badForm(2, 23, "a: word;b: span 3 work a");
+        due.badForm(2, 27, "a: num 1..2;b: span 3 work a");
+        due.badForm(2, 15, "b: span 3 work a;a: day");
+        due.badForm(3, 15, "a: day;b: word;a: day");
+        due.badForm(3, 11, "a: one x/y/x");
+        due.badForm(4, 10, "a: num 9..8");
+        due.badForm(4, 11, "a: num 10..009 @");
+        due.badForm(5, 15, "a: one x/y/z/w/v");
+        due.badForm(5, 48, "a:day;b:day;c:day;d:day;e:day;f:day;g:day;h:day;i:day");
     }
 
     private static void formFaultsOfOnePlace() {
-        formFault("a: one x/y/z/w/x", 3, 15);
-        formFault("a: one x/y/z/w/3", 1, 15);
-        formFault("a:day;b:day;c:day;d:day;e:day;f:day;g:day;h:day;h:day", 3, 48);
-        formFault("a:day;b:day;c:day;d:day;e:day;f:day;g:day;h:day;", 1, 48);
-        formFault("a:day;b:day;c:day;d:day;e:day;f:day;g:day;h:day;abcdefghi", 1, 48);
-        formFault("a: num 9..8@", 4, 10);
-        formFault("a: day;a@", 3, 7);
+        due.part("promises 6, 8, 9, faults of one place");
+        due.badForm(3, 15, "a: one x/y/z/w/x");
+        due.badForm(1, 15, "a: one x/y/z/w/3");
+        due.badForm(3, 48, "a:day;b:day;c:day;d:day;e:day;f:day;g:day;h:day;h:day");
+        due.badForm(1, 48, "a:day;b:day;c:day;d:day;e:day;f:day;g:day;h:day;");
+        due.badForm(1, 48, "a:day;b:day;c:day;d:day;e:day;f:day;g:day;h:day;abcdefghi");
+        due.badForm(4, 10, "a: num 9..8@");
+        due.badForm(3, 7, "a: day;a@");
     }
 
     private static void twelveForms() {
@@ -164,47 +155,37 @@ public final class TextsTest {
         due.is("value(2, 1)", x.value(2, 1), -1);
     }
 
-    private static void noticeFault(String form, String text, int fault, int place) {
-        GazetteHouse x = new GazetteHouse();
-        due.part("notice '" + text + "' by '" + form + "'");
-        due.is("form", Due.form(x, form), 0);
-        due.refused(x, "notice", Due.notice(x, 0, text, 1, 0), 4);
-        due.is("fault()", x.fault(), fault);
-        due.is("where()", x.where(), place);
-        due.is("count(6)", x.count(6), 0);
-        due.is("count(2)", x.count(2), 0);
-    }
-
     private static void noticeFaults() {
+        due.part("promises 7, 8, 9");
         String two = "a: num 3..9; b: word?";
-        noticeFault(two, "", 1, 0);
-        noticeFault(two, "a", 1, 1);
-        noticeFault(two, "a=", 1, 2);
-        noticeFault(two, "a:5", 1, 1);
-        noticeFault(two, "5=a", 1, 0);
-        noticeFault(two, "a=?", 1, 2);
-        noticeFault(two, "a=12345", 1, 2);
-        noticeFault(two, "b=abcdefghi", 1, 2);
-        noticeFault(two, "a=5;", 1, 4);
-        noticeFault(two, "a=5 b=x", 1, 4);
-        noticeFault(two, "b=5", 4, 2);
-        noticeFault(two, "b=x ", 6, 4);
-        noticeFault(two, "a=2", 4, 2);
-        noticeFault(two, "a=10", 4, 2);
-        noticeFault(two, "a=a@", 4, 2);
-        noticeFault(two, "c@", 2, 0);
-        noticeFault(two, "b=x;b=y", 3, 4);
-        noticeFault(two, "a=5;b=x;c=3", 2, 8);
-        noticeFault(two, "a=5;b=x;a=3", 3, 8);
-        noticeFault(SIX, "c=5", 2, 0);
-        noticeFault(SIX, "f=5", 2, 0);
-        noticeFault(SIX, "b=x", 4, 2);
-        noticeFault(SIX, "b=10000", 1, 2);
-        noticeFault(SIX, "e=5", 4, 2);
-        noticeFault(SIX, "e=may", 4, 2);
-        noticeFault(SIX, "a=5;d=x", 6, 7);
-        noticeFault("a: day; b: day; c: day; d: day; e: day; f: day; g: day; h: day",
-                "a=1;b=1;c=1;d=1;e=1;f=1;g=1;h=1;h=1", 3, 32);
+        due.badNotice(two, 1, 0, "");
+        due.badNotice(two, 1, 1, "a");
+        due.badNotice(two, 1, 2, "a=");
+        due.badNotice(two, 1, 1, "a:5");
+        due.badNotice(two, 1, 0, "5=a");
+        due.badNotice(two, 1, 2, "a=?");
+        due.badNotice(two, 1, 2, "a=12345");
+        due.badNotice(two, 1, 2, "b=abcdefghi");
+        due.badNotice(two, 1, 4, "a=5;");
+        due.badNotice(two, 1, 4, "a=5 b=x");
+        due.badNotice(two, 4, 2, "b=5");
+        due.badNotice(two, 6, 4, "b=x ");
+        due.badNotice(two, 4, 2, "a=2");
+        due.badNotice(two, 4, 2, "a=10");
+        due.badNotice(two, 4, 2, "a=a@");
+        due.badNotice(two, 2, 0, "c@");
+        due.badNotice(two, 3, 4, "b=x;b=y");
+        due.badNotice(two, 2, 8, "a=5;b=x;c=3");
+        due.badNotice(two, 3, 8, "a=5;b=x;a=3");
+        due.badNotice(SIX, 2, 0, "c=5");
+        due.badNotice(SIX, 2, 0, "f=5");
+        due.badNotice(SIX, 4, 2, "b=x");
+        due.badNotice(SIX, 1, 2, "b=10000");
+        due.badNotice(SIX, 4, 2, "e=5");
+        due.badNotice(SIX, 4, 2, "e=may");
+        due.badNotice(SIX, 6, 7, "a=5;d=x");
+        due.badNotice("a: day; b: day; c: day; d: day; e: day; f: day; g: day; h: day",
+                3, 32, "a=1;b=1;c=1;d=1;e=1;f=1;g=1;h=1;h=1");
     }
 
     private static void noticeRefusals() {
