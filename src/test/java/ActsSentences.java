@@ -396,8 +396,25 @@ final class ActsSentences {
         }
         due.is("value(1, 0)", x.value(1, 0), 2);
         due.is("value(1, 1)", x.value(1, 1), -1);
+        nothingIsLeftOfANotice(0);
+        nothingIsLeftOfANotice(100);
         nothingIsLeftOfAForm("a:num 3..9?;b:one p/q?;c:day?;d:span 5 work c");
         nothingIsLeftOfAForm("a:num 3..9?;b:one p/q?;c:day?;d:span 5 work c;e:dax");
+    }
+
+    /** A notice that is taken back, or has a fault, is in no issue, whether it was due or not. */
+    private void nothingIsLeftOfANotice(int dueDay) {
+        GazetteHouse x = house();
+        due.is("notice", Due.notice(x, 0, "a=x", 10, dueDay), 2);
+        x.undo();
+        due.is("issue", x.issue(1, 2, 8, 10), 0);
+        due.is("issued(0, 1) behind one taken back", x.issued(0, 1), 2);
+        due.is("issued(0, 4)", x.issued(0, 4), 0);
+        due.is("notice of a fault", Due.notice(x, 0, "a=1", 10, dueDay), -1);
+        due.is("count(4)", x.count(4), 0);
+        due.is("issue", x.issue(2, 3, 8, 10), 1);
+        due.is("issued(1, 1) behind one of a fault", x.issued(1, 1), 0);
+        due.is("issued(1, 2)", x.issued(1, 2), 0);
     }
 
     /** A form that is taken back, or has a fault, tells nothing of the next one of its number. */
